@@ -129,6 +129,15 @@ public final class BoardTest {
         x.stick(8, true);
         x.move(8, 16, -1);
         c.row("counts", new int[] {x.board(-1, 2), x.board(64, 3)}, 1, 1);
+        x.piece(0, 4);
+        x.stick(0, true);
+        x.move(0, 63, -1);
+        c.row("square 0 and square 63", new int[] {x.board(0, 2), x.board(0, 3)}, 2, 2);
+        x.stick(0, false);
+        x.piece(9, 4);
+        x.stick(9, true);
+        x.move(9, 0, -1);
+        c.row("now 0 is open", new int[] {x.board(0, 2), x.board(0, 3)}, 2, 3);
         c.row("wrong", new int[] {x.board(64, 0), x.board(-1, 1), x.board(0, 4), x.board(0, -1)}, -1, -1, -1, -1);
     }
 }

@@ -9,6 +9,8 @@ public final class ChestTest {
         doors();
         poses();
         posesWithWorksAndWalls();
+        passagesBothWays();
+        posesOfEachChest();
         airAtFirst();
         airLasts();
         airEdges();
@@ -113,10 +115,41 @@ public final class ChestTest {
         c.row("one wall", new int[] {x.poses(0, 1), x.poses(0, 2), x.poses(0, 3), x.poses(0, 4)}, 4, 3, 2, 1);
         x.wall(0, 4, 5, true);
         c.row("two walls", new int[] {x.poses(0, 1), x.poses(0, 2), x.poses(0, 3), x.poses(0, 4)}, 4, 2, 0, 0);
+        x.wall(0, 1, 0, false);
+        x.wall(0, 4, 5, false);
+        c.row("walls gone", new int[] {x.poses(0, 1), x.poses(0, 2), x.poses(0, 3), x.poses(0, 4)}, 4, 4, 4, 1);
         for (int s = 0; s < 16; s++) {
             x.works(0, s, true);
         }
         c.due("none left", x.poses(0, 1), 0);
+    }
+
+    private static void passagesBothWays() {
+        c.test("3 a passage goes both ways, also where a wall was");
+        for (int told = 0; told < 4; told++) {
+            WoodenTurk x = new WoodenTurk();
+            for (int s = 2; s < 16; s++) {
+                x.works(0, s, true);
+            }
+            x.door(0, 0, 0, 1, false);
+            x.door(0, 1, 0, 2, false);
+            Texts.read(x, 0, "open 0; shut 0; open 1;");
+            Texts.read(x, 1, "open 1; shut 1; open 0;");
+            x.wall(0, told & 1, 1 - (told & 1), true);
+            c.row("a wall", new int[] {x.hide(0, 0, 1, 0), x.hide(0, 1, 1, 0)}, 0, 0);
+            x.wall(0, told / 2, 1 - told / 2, false);
+            c.row("none", new int[] {x.hide(0, 0, 1, 0), x.hide(0, 1, 1, 0)}, 1, 1);
+        }
+    }
+
+    private static void posesOfEachChest() {
+        c.test("9 each chest has its own poses");
+        WoodenTurk x = new WoodenTurk();
+        x.works(0, 0, true);
+        x.wall(1, 0, 1, true);
+        x.wall(2, 0, 1, false);
+        c.row("size 1", new int[] {x.poses(0, 1), x.poses(1, 1), x.poses(2, 1), x.poses(0, 1)}, 15, 16, 16, 15);
+        c.row("size 2", new int[] {x.poses(0, 2), x.poses(1, 2), x.poses(2, 2), x.poses(0, 2)}, 25, 27, 28, 25);
     }
 
     private static void airAtFirst() {

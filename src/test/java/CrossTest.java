@@ -50,6 +50,13 @@ public final class CrossTest {
                 walls[s][t] |= are;
                 walls[t][s] |= are;
             }
+            for (int i = 0; i < wallCount / 4; i++) {
+                int s = any(16);
+                int t = s ^ 1;
+                x.wall(0, s, t, false);
+                walls[s][t] = false;
+                walls[t][s] = false;
+            }
             for (int door = 0; door < doorCount; door++) {
                 side[door] = any(4) == 0 ? 1 : 0;
                 spaces[door] = (any(256) & any(256)) << 8 * side[door];

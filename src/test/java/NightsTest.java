@@ -83,6 +83,18 @@ public final class NightsTest {
         c.due("master 1", x.habit(1, 0, 1), false);
         c.row("weights", new int[] {x.who(0, 0, 1), x.who(1, 0, 1), x.who(2, 0, 1), x.who(3, 0, 1)}, 40, 360, 0, 40);
         c.due("nobody it can be", x.who(2, 0, 0), -1);
+        for (int i = 1; i < 12; i++) {
+            x.master(1, 50, 0, 99);
+        }
+        x.habit(11, 2, 7);
+        c.row("1 at first, of each", new int[] {x.who(1, 11, 1), x.who(2, 11, 1), x.who(3, 11, 1), x.who(3, 10, 1)},
+            40, 40, 280, 40);
+        WoodenTurk y = new WoodenTurk();
+        y.master(1, 50, 0, 99);
+        y.night(5, 0, 60, 2, 0);
+        c.due("of the first for the first", y.who(0, 0, 1), 40);
+        y.night(5, 0, 99, 2, 0);
+        c.row("1 alone is all", new int[] {y.who(1, 0, 1), y.who(1, 0, 0)}, 1, 1000);
     }
 
     private static void nights() {
@@ -137,6 +149,7 @@ public final class NightsTest {
         c.row("one", new int[] {x.who(2, 0, 0), x.who(2, 1, 0), x.who(2, 2, 0)}, 0, 0, 1000);
         c.row("wrong", new int[] {x.who(3, 0, 0), x.who(-1, 0, 0), x.who(0, 3, 0), x.who(0, -1, 0), x.who(0, 0, 2),
             x.who(0, 0, -1)}, -1, -1, -1, -1, -1, -1);
+        c.row("wrong", new int[] {x.who(3, 0, 1), x.who(-1, 0, 1), x.who(0, 3, 1), x.who(0, -1, 1)}, -1, -1, -1, -1);
         x.habit(2, 0, 0);
         x.night(99, 0, 0, 0, 0);
         c.row("all are 0", new int[] {x.who(3, 2, 0), x.who(3, 2, 1)}, -1, 0);

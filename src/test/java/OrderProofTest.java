@@ -7,9 +7,11 @@ public final class OrderProofTest {
         orderByDoorsAndNumbers();
         orderOfTheFrontAlone();
         orderWithoutPoses();
+        orderBySeconds();
         wrongOrders();
         proofs();
         proofTakesTheFewest();
+        proofOfAll();
         proofsRefused();
         c.end();
     }
@@ -91,6 +93,20 @@ public final class OrderProofTest {
         c.row("size 2", tell(x, 3, 1, 2), 0, 0);
     }
 
+    private static void orderBySeconds() {
+        c.test("14 candle, open and shut take a second each, the wait its own");
+        WoodenTurk x = new WoodenTurk();
+        // one way alone: 6 7 3 11 10 2 1 0 4; door 0 leaves him 6, door 2 leaves him 4, eight moves from it
+        keepFree(x, 0xCDF);
+        x.wall(0, 2, 6, true);
+        x.wall(0, 2, 3, true);
+        x.door(0, 0, 0, 0x9F, false);
+        x.door(0, 1, 0, 0x20, false);
+        x.door(0, 2, 0, 0xCF, false);
+        c.row("seven moves", tell(x, 7, 1, 1), 13, 2, 0, 1);
+        c.row("eight", tell(x, 7, 2, 1), 15, 3, 0, 1, 2);
+    }
+
     private static void wrongOrders() {
         c.test("14 wrong asks");
         WoodenTurk x = new WoodenTurk();
@@ -142,6 +158,18 @@ public final class OrderProofTest {
         c.due("size 2: the middle one", x.proof(0, 2, 0), 1);
     }
 
+    private static void proofOfAll() {
+        c.test("15 all ten doors");
+        WoodenTurk x = new WoodenTurk();
+        for (int door = 0; door < 8; door++) {
+            x.door(0, door, 0, 1 << door, true);
+        }
+        x.door(0, 8, 1, 0x0F00, true);
+        x.door(0, 9, 1, 0xF000, true);
+        c.due("all", x.proof(0, 1, 0), 1023);
+        c.due("one less", x.proof(0, 1, 16), -1);
+    }
+
     private static void proofsRefused() {
         c.test("15 refused doors and wrong asks");
         WoodenTurk x = new WoodenTurk();
@@ -149,6 +177,10 @@ public final class OrderProofTest {
         x.door(0, 9, 1, 0xFF00, false);
         c.row("refused", new int[] {x.proof(0, 1, 0), x.proof(0, 1, 1), x.proof(0, 1, 512), x.proof(0, 1, 513),
             x.proof(0, 1, 1023)}, 1, 512, 1, -1, -1);
+        for (int s = 3; s < 16; s++) {
+            x.works(0, s, true);
+        }
+        c.due("all refused, nobody to be found", x.proof(0, 4, 1023), 0);
         c.row("wrong", new int[] {x.proof(0, 1, 1024), x.proof(0, 1, -1), x.proof(0, 0, 0), x.proof(0, 5, 0),
             x.proof(3, 1, 0), x.proof(-1, 1, 0)}, -1, -1, -1, -1, -1, -1);
     }

@@ -69,6 +69,10 @@ public final class PamphletTest {
         holds("2+3*4=14");
         holds("2*3+4=10");
         holds("10-3-2=5");
+        holds("((((((((1=1))))))))");
+        fails("((((((((1=2))))))))");
+        holds("no no no no no no no no 1=1");
+        fails("no no no no no no no (1=1)");
         holds("1=2 or 1=2 or 1=1");
         fails("1=1 and 1=1 and 1=2");
         fails("1=2 and 1=1 or 1=1 and 2=1");

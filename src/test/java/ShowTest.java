@@ -149,6 +149,9 @@ public final class ShowTest {
         c.row("seen", new int[] {x.seen(0, 1, 799), x.seen(0, 1, 800)}, 0, -1);
         c.row("way", new int[] {x.way(0, 1, 3, 0), x.way(0, 1, 3, 800), x.way(0, 1, 3, 801)}, 7, 7, -1);
         c.row("way", new int[] {x.way(0, 0, 1, 0), x.way(0, 0, 1, 762), x.way(0, 0, 2, 0)}, 1, 1, -1);
+        Texts.read(x, 2, "wait 20;".repeat(35) + "open 0; open 1; shut 1; shut 0; open 2;");
+        c.row("late in a show", new int[] {x.way(0, 2, 1, 700), x.way(0, 2, 1, 701), x.way(0, 2, 1, 702),
+            x.way(0, 2, 1, 703), x.way(0, 2, 1, 704), x.way(0, 2, 1, 705)}, 1, 2, 4, 2, 1, 1);
         c.due("fails in the last second", x.hide(0, 0, 2, 1), 761);
         c.due("in the first", x.hide(0, 0, 3, 1), 0);
     }

@@ -86,6 +86,15 @@ public final class TextTest {
         show(x, "opens 1;", -1, 1, 0);
         show(x, "Open 1;", -1, 1, 0);
         show(x, "turndark;", -1, 1, 0);
+        show(x, "turnz;", -1, 1, 0);
+        show(x, "turnA;", -1, 1, 0);
+        show(x, "turnZ;", -1, 1, 0);
+        show(x, "turn[;", -1, 1, 4);
+        show(x, "turn@;", -1, 1, 4);
+        show(x, "turn{;", -1, 1, 4);
+        show(x, "turn`;", -1, 1, 4);
+        show(x, "open 1:", -1, 1, 6);
+        show(x, "open 1/", -1, 1, 6);
         show(x, "open\t1;", -1, 1, 4);
         show(x, "turn\r;", -1, 1, 4);
         show(x, "open 00001;", -1, 1, 5);
