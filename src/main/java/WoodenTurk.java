@@ -958,7 +958,8 @@ public final class WoodenTurk {
         void follow(Chest ofChest, Show show, int size) {
             poses.findFor(ofChest, size);
             poses.findUnseen(0, now);
-            failSecond = NONE;
+            // without a pose he is nowhere ahead of the first second, be there such a second or not
+            failSecond = isEmpty(now) ? 0 : NONE;
             int second = 0;
             for (int step = 0; step < show.stepCount() && failSecond == NONE; step++) {
                 poses.findUnseen(show.viewOf(step), unseen);

@@ -191,6 +191,9 @@ public final class CrossTest {
     /** The poses in which he can be in the end, or, where it goes wrong, the second as -1 - second. */
     private static int follow(Map<Integer, Set<Integer>> moves, List<Integer> film) {
         Set<Integer> now = new TreeSet<>(moves.keySet());
+        if (now.isEmpty()) {
+            return -1;
+        }
         for (int second = 0; second < film.size(); second++) {
             Set<Integer> later = new TreeSet<>();
             for (int pose : now) {
@@ -231,9 +234,11 @@ public final class CrossTest {
 
     private static void hidingRuns() {
         c.test("9 to 13 poses, shows, hiding and ways against the long way round");
-        for (int round = 0; round < 60; round++) {
-            Told told = new Told(any(9), any(60), 10);
-            Script script = Script.random(told, any(31));
+        for (int round = 0; round < 80; round++) {
+            // the last rounds have little room, so that some sizes have no pose, and short shows
+            boolean isNarrow = round >= 60;
+            Told told = new Told(isNarrow ? 10 + any(25) : any(9), any(60), 10);
+            Script script = Script.random(told, any(isNarrow ? 3 : 31));
             c.due("text", Texts.read(told.x, 2, script.text.toString()), script.text.toString().split(";").length
                 - (script.text.isEmpty() ? 1 : 0));
             int all = 0;

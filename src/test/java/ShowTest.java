@@ -120,8 +120,21 @@ public final class ShowTest {
         Texts.read(x, 0, "turn;");
         c.row("size 4", new int[] {x.hide(0, 0, 4, 0), x.hide(0, 0, 4, 1), x.hide(0, 0, 4, 2)}, 0, 0, 0);
         c.due("no way", x.way(0, 0, 4, 0), -1);
-        c.row("no show", new int[] {x.hide(0, 1, 4, 0), x.hide(0, 1, 4, 1), x.hide(0, 1, 4, 2)}, 0, -1, 0);
+        c.row("no show", new int[] {x.hide(0, 1, 4, 0), x.hide(0, 1, 4, 1), x.hide(0, 1, 4, 2)}, 0, 0, 0);
         c.due("no way", x.way(0, 1, 4, 0), -1);
+        c.row("size 3 has one pose", new int[] {x.hide(0, 1, 3, 0), x.hide(0, 1, 3, 1), x.hide(0, 1, 3, 2)}, 1, -1, 1);
+        c.row("then size 4 again", new int[] {x.hide(0, 1, 4, 0), x.hide(0, 1, 4, 1), x.hide(0, 1, 4, 2)}, 0, 0, 0);
+        x.works(0, 3, false);
+        c.row("room for size 4", new int[] {x.hide(0, 1, 4, 0), x.hide(0, 1, 4, 1), x.hide(0, 1, 4, 2)}, 1, -1, 1);
+        for (int s = 0; s < 16; s++) {
+            x.works(0, s, true);
+        }
+        for (int size = 1; size <= 4; size++) {
+            c.row("all works, size " + size, new int[] {x.hide(0, 1, size, 0), x.hide(0, 1, size, 1),
+                x.hide(0, 1, size, 2), x.way(0, 1, size, 0)}, 0, 0, 0, -1);
+            c.row("in a show", new int[] {x.hide(0, 0, size, 0), x.hide(0, 0, size, 1),
+                x.hide(0, 0, size, 2), x.way(0, 0, size, 0)}, 0, 0, 0, -1);
+        }
     }
 
     private static void way() {
