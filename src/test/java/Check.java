@@ -10,6 +10,16 @@ final class Check {
         fine = true;
     }
 
+    /** A test of an edge that a sentence of the document names; the part of it must have the words quoted. */
+    void edge(String part, String words) {
+        edge(part, words, "");
+    }
+
+    void edge(String part, String words, String which) {
+        test("edge " + part + ": " + words + (which.isEmpty() ? "" : " (" + which + ")"));
+        due("the document has these words", Doc.has(part, words), true);
+    }
+
     void due(String call, int got, int want) {
         if (got != want) {
             fine = false;

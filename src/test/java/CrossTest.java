@@ -373,7 +373,7 @@ public final class CrossTest {
             Condition condition = choice(3);
             String text = "none when " + condition.text + ";";
             if (text.length() <= 600) {
-                if (round % 200 == 0) {
+                if (round % 10 == 0) {
                     x = new WoodenTurk();
                 }
                 c.due(text, Texts.read(x, 4, text), 1);
